@@ -230,8 +230,9 @@ public final class PromisesTest {
             due("error in command '" + g + "'", errorIn(head + g), -1);
         }
         String[] bad = {"x", "O", "D", "0", " ", "o4", "o02", "o016", "o0159", "o0158", "o01570o", "o0157x",
-            "c2", "c0x", "c1c", "n0", "nn", "n10", "n1 ", "o0x", "o00x"};
-        int[] at = {0, 0, 0, 0, 0, 1, 2, 3, 4, 4, 7, 5, 1, 2, 2, 1, 1, 2, 2, 2, 3};
+            "c2", "c0x", "c1c", "n0", "nn", "n10", "n1 ", "o0x", "o00x", "o/", "o00:", "o0000:", "o0000/", "c/", "c0:",
+            "c1:", "c0/", "n:"};
+        int[] at = {0, 0, 0, 0, 0, 1, 2, 3, 4, 4, 7, 5, 1, 2, 2, 1, 1, 2, 2, 2, 3, 1, 3, 5, 5, 1, 2, 2, 2, 1};
         for (int i = 0; i < bad.length; i++) {
             due("error in command '" + bad[i] + "'", errorIn(head + bad[i]), 6 + at[i]);
         }
@@ -290,6 +291,12 @@ public final class PromisesTest {
         refuses(x, "restore(0) after load", STATE, () -> x.restore(0));
         refuses(x, "restore(1) after load", STATE, () -> x.restore(1));
         due("the text stays", x.clearText(), 41);
+        NightTrains used = loaded("D13210o00000o10100n1o20200o30335");
+        used.nights(1);
+        used.ask(0, 9, 1, 1);
+        write(used, "D13250");
+        used.load();
+        due("load: as in a new object", picture(used).equals(picture(loaded("D13250"))) ? 1 : 0, 1);
         commandsLeftOut();
     }
 
@@ -468,13 +475,13 @@ public final class PromisesTest {
     }
 
     private static void tenDeliveredLately(NightTrains x) {
-        // Lot 5 is in front: twelve more at once, items 0 to 7 and 0 to 3.
-        for (int i = 0; i < 12; i++) {
+        // Lot 5 is in front: forty more at once.
+        for (int i = 0; i < 40; i++) {
             x.ask(i % 4, 5, i % 8, 0);
         }
         for (int k = 0; k < 10; k++) {
-            due("twelve more: delivered(" + k + ", 2)", x.delivered(k, 2), (11 - k) % 8);
-            due("twelve more: delivered(" + k + ", 0)", x.delivered(k, 0), (11 - k) % 4);
+            due("forty more: delivered(" + k + ", 2)", x.delivered(k, 2), (39 - k) % 8);
+            due("forty more: delivered(" + k + ", 0)", x.delivered(k, 0), (39 - k) % 4);
         }
     }
 
@@ -640,6 +647,10 @@ public final class PromisesTest {
         due("lot 4 went back", x.lot(4, 0), -1);
         due("lot 7 stays", x.lot(7, 0), 2);
         due("lot 2 is in front", x.lot(2, 0), 1);
+        NightTrains lowest = loaded("D12991o00000n1o00700n1o00200n1");
+        due("lot 0 went back", lowest.lot(0, 0), -1);
+        due("lots in front", lowest.about(8), 2);
+        due("lot 0 in front", loaded("D13250o00000n1").about(8), 1);
         // Of like ones the lowest goes back.
         NightTrains like = loaded("D22991o00700o00400n1o00200n1");
         due("lot 4, the lowest, went back", like.lot(4, 0), -1);
@@ -748,7 +759,7 @@ public final class PromisesTest {
 
     private static void undoing() {
         NightTrains x = new NightTrains();
-        String[] pictures = new String[7];
+        String[] pictures = new String[10];
         pictures[0] = picture(x);
         x.ask(0, 3, 1, 4);
         pictures[1] = picture(x);
@@ -763,7 +774,13 @@ public final class PromisesTest {
         x.ask(1, 8, 0, 0);
         pictures[6] = picture(x);
         x.cancel(0);
-        for (int left = 6; left >= 0; left--) {
+        pictures[7] = picture(x);
+        x.ask(2, 9, 0, 3);
+        pictures[8] = picture(x);
+        x.set(TRAIN_ROOM, 0);
+        pictures[9] = picture(x);
+        x.nights(9);
+        for (int left = 9; left >= 0; left--) {
             due("undo()", x.undo(), left);
             due("undo: the state before", picture(x).equals(pictures[left]) ? 1 : 0, 1);
         }
@@ -820,6 +837,11 @@ public final class PromisesTest {
         late.set(TRAIN_ROOM, 1);
         due("late: arrives(1)", late.arrives(1), 1);
         due("late: arrives(0)", late.arrives(0), -1);
+        // Lot 0 comes in the second night, too late for the order that has waited for two.
+        NightTrains both = loaded("D03230o00000n2o10000o20109");
+        both.set(TRAIN_ROOM, 1);
+        due("too late: arrives(0)", both.arrives(0), -1);
+        due("in time: arrives(1)", both.arrives(1), 2);
         NightTrains nine = loaded("D13992o00000o10100o20200o30300o00400o10500o20600o30700o00800o10900");
         due("the ninth night", nine.arrives(8), 9);
         due("the tenth would be too late", nine.arrives(9), -1);
@@ -856,6 +878,8 @@ public final class PromisesTest {
         refuses(x, "feeFor(-1)", INDEX, () -> x.feeFor(-1));
         x.ask(2, 5, 0, 3);
         due("feeFor(6) with 10 against it", x.feeFor(6), -1);
+        due("feeFor(6) with 8 against it", loaded("D13250o00508").feeFor(6), 9);
+        due("feeFor(6) with 9 against it", loaded("D13250o00509").feeFor(6), -1);
         x.nights(1);
         due("feeFor(5) in front", x.feeFor(5), 0);
         due("feeFor(0) of none", x.feeFor(0), 0);
@@ -893,6 +917,12 @@ public final class PromisesTest {
             due("would(1, " + what + ")", x.would(1, what), want[what]);
             due("would(60, " + what + ")", x.would(60, what), want[what]);
         }
+        // Two lots come in one night with three orders, and four orders lapse.
+        NightTrains y = loaded("D24210o00009o10008o20107o30201o30300o20402o10500");
+        int[] many = {3, 4, 24, 2};
+        for (int what = 0; what <= 3; what++) {
+            due("many: would(1, " + what + ")", y.would(1, what), many[what]);
+        }
         refuses(x, "would(-1, 0)", ARGUMENT, () -> x.would(-1, 0));
         refuses(x, "would(61, 0)", ARGUMENT, () -> x.would(61, 0));
         refuses(x, "would(1, 4)", ARGUMENT, () -> x.would(1, 4));
@@ -920,6 +950,7 @@ public final class PromisesTest {
 
     private static void leastRooms() {
         due("leastRoom() of none", new NightTrains().leastRoom(), 0);
+        due("the longest patience", loaded("D03990o00000").leastRoom(), 1);
         due("two lots in two nights", loaded("D03220o00000o00100").leastRoom(), 1);
         due("three lots in two nights", loaded("D03220o00000o00100o00200").leastRoom(), 2);
         due("five lots in one night", loaded("D03210o00000o00100o00200o00300o00400").leastRoom(), 5);
@@ -960,6 +991,10 @@ public final class PromisesTest {
         dueScript(x, 3, 20000_10070_20000L, -1);
         dueScript(x, 3, 20000_20000_10070L, 1);
         dueScript(x, 3, 10070_20100_20100L, 2);
+        dueScript(x, 3, 10073_30105_30102L, 2);
+        dueScript(x, 3, 10073_30105_30101L, -1);
+        dueScript(x, 3, 50000_40005_80000L, 2);
+        dueScript(x, 3, 50000_40005_80001L, -1);
         due("a script changes nothing", x.about(1), 1);
         due("nor the order", x.order(0, 3), 4);
     }
