@@ -1020,11 +1020,22 @@ public final class PromisesTest {
         dueScript(x, 1, 90004L, -1);
         dueScript(x, 1, 90005L, 0);
         dueScript(x, 1, 90999L, 0);
+        for (int i = 0; i < 14; i++) {
+            x.ask(3, 5, 0, 0);
+        }
+        dueScript(x, 1, 73014L, -1);
+        dueScript(x, 1, 73015L, 0);
         // In three nights lot 5 goes back; an order without a train lapses.
         dueScript(x, 2, 40003_60500L, -1);
         NightTrains lapsing = loaded("D03210o00000");
         dueScript(lapsing, 2, 40001_80000L, 1);
         dueScript(lapsing, 2, 40001_80001L, -1);
+        NightTrains many = loaded("D03210");
+        for (int i = 0; i < 12; i++) {
+            many.ask(i % 4, i, 0, 0);
+        }
+        dueScript(many, 2, 40001_80011L, 1);
+        dueScript(many, 2, 40001_80012L, -1);
         // Fees of more than two digits: 12 orders with a fee of 9 are kept.
         NightTrains rich = new NightTrains();
         for (int i = 0; i < 12; i++) {
@@ -1038,7 +1049,7 @@ public final class PromisesTest {
     private static void scriptsOfWrongGroups() {
         NightTrains x = loaded("D43250o00504o00604o10000n1");
         // Lots 0, 5 and 6 are in front; each of these would succeed but for one digit.
-        long[] groups = {0L, 1L, 99L, 20001L, 20010L, 41001L, 40101L, 50041L, 50140L, 60011L, 60002L, 60009L,
+        long[] groups = {0L, 1L, 99L, 20001L, 20010L, 41001L, 40101L, 50041L, 50140L, 60011L, 60002L, 60402L, 60409L,
             70101L, 81000L, 80100L, 91000L, 30011L};
         x.ask(0, 1, 0, 0);
         for (long g : groups) {
